@@ -18,8 +18,6 @@ public final class CoalHoles {
   private static final int HOUSE = 0, CHAPEL = 1, LODGING = 2, MANSE = 3, CLUB = 4, EMPTY = 5, KINDS = 6;
   private static final int[] ABOVE = {-1, HOUSE, HOUSE, CHAPEL, LODGING, HOUSE};
   private static final int[] BURNS = {5, 3, 10, 4, 6, 0};
-  /** The least SLACK that a KIND can have, whatever its PLATE is. */
-  private static final int[] LEAST_SLACK = {0, 0, 0, 0, 10, 50};
 
   private static final int EAR = 0, LOAD = 1, TREADS = 2;
   private static final int[] FIRST_RULES = {10, 20, 0};
@@ -216,14 +214,21 @@ public final class CoalHoles {
     if (!isWithin(n, 20)) {
       return BAD;
     }
-    if (now.clanksAnyhow()) {
+    // But for a LODGING, no house's coal and straightness hang on the others: without the tune, it is loud or
+    // not as it is in the set itself or not, and the tune can only make it louder.
+    int others = ~now.those(LODGING);
+    int useful = now.misfits();
+    int must = loudWith(0, n, false) & others;
+    int mustNot = loudWith(useful, n, false) & others;
+    if ((must & mustNot) != 0 || now.houses > 0 && now.rules[EAR] == 0) {
       return NONE;
     }
-    int useful = now.misfits();
+    int may = useful & ~mustNot;
     int sets = 1 << now.houses;
-    for (int many = 0; many <= now.houses; many++) {
-      for (int set = 0; set < sets; set++) {
-        if ((set & useful) == set && Integer.bitCount(set) == many && isQuietWith(set, n)) {
+    for (int many = Integer.bitCount(must); many <= now.houses; many++) {
+      for (int set = must; set < sets; set++) {
+        if ((set & may) == set && (set & must) == must && Integer.bitCount(set) == many
+            && loudWith(set, n, true) == 0) {
           return set;
         }
       }
@@ -235,9 +240,10 @@ public final class CoalHoles {
     if (!now.has(house) || n < 1 || n > 60 || !isWithin(what, 1)) {
       return BAD;
     }
+    int bound = now.mostCoal(house, n);
     int best = 0;
     int most = -1;
-    for (int plate = 0; plate <= TOP; plate++) {
+    for (int plate = 0; plate <= TOP && most < bound; plate++) {
       thought.become(now);
       thought.plates[house] = plate;
       thought.pass(n);
@@ -274,7 +280,10 @@ public final class CoalHoles {
     for (int ear = 0; ear <= TOP; ear++) {
       thought.become(now);
       thought.rules[EAR] = ear;
-      thought.pass(n);
+      // Noise never grows less: a run that is too loud need not go on.
+      for (int k = 0; k < n && thought.noise <= v; k++) {
+        thought.pass(1);
+      }
       if (thought.noise <= v) {
         return ear;
       }
@@ -592,7 +601,8 @@ public final class CoalHoles {
 
   // ---- what the calls share
 
-  private boolean isQuietWith(int set, int n) {
+  /** Those that are loud behind n nights, if the plates of a set are made to fit now; with the tune of then, or none. */
+  private int loudWith(int set, int n, boolean hearTheTune) {
     thought.become(now);
     for (int i = 0; i < thought.houses; i++) {
       if ((set >> i & 1) == 1) {
@@ -600,8 +610,9 @@ public final class CoalHoles {
       }
     }
     thought.pass(n);
+    thought.tune = hearTheTune ? thought.tune : 0;
     thought.clank();
-    return thought.tune == 0;
+    return thought.tune;
   }
 
   /** One run of nights serves all houses, as none of them is changed in thought. */
@@ -901,14 +912,26 @@ public final class CoalHoles {
       return best;
     }
 
-    /** Whether one has a SLACK of EAR or more with any PLATE: then no set of plates is worth trying. */
-    private boolean clanksAnyhow() {
+    private int those(int kind) {
+      int set = 0;
       for (int i = 0; i < houses; i++) {
-        if (isKind(kinds[i]) && LEAST_SLACK[kinds[i]] >= rules[EAR]) {
-          return true;
+        if (kinds[i] == kind) {
+          set |= 1 << i;
         }
       }
-      return false;
+      return set;
+    }
+
+    /** What COAL of one is behind n nights at most: no plate brings more than all its deliveries. */
+    private int mostCoal(int i, int n) {
+      int coal = coals[i];
+      for (int k = 0; k < n && houses > 0; k++) {
+        if ((night + k) % houses == i) {
+          coal = Math.min(TOP, coal + rules[LOAD]);
+        }
+        coal = Math.max(0, coal - burns(i));
+      }
+      return coal;
     }
 
     /** Those that a plate made to fit could change at all: the others are in no set of the fewest. */
