@@ -601,7 +601,7 @@ public final class CoalHoles {
 
   // ---- what the calls share
 
-  /** Those that are loud behind n nights, if the plates of a set are made to fit now; with the tune of then, or none. */
+  /** Those that are loud behind n nights, if a set's plates are made to fit now; by the tune of then, or by none. */
   private int loudWith(int set, int n, boolean hearTheTune) {
     thought.become(now);
     for (int i = 0; i < thought.houses; i++) {

@@ -139,6 +139,12 @@ public final class Promises {
         due(3, "told(" + kind + ", " + (5 + k) + ")", x.told(kind, 5 + k), want[kind][k]);
       }
     }
+    x.set(2, 3, 99);
+    x.set(4, 3, 99);
+    due(3, "a tenth of 99: LODGING", x.told(2, 6), -10);
+    due(3, "a tenth of 99: CLUB", x.told(4, 6), -7);
+    x.set(4, 3, 10);
+    due(3, "a tenth of 10: CLUB", x.told(4, 6), 1);
     x.set(5, 4, 77);
     due(3, "worth of EMPTY", x.told(5, 8), 77);
     x.set(3, 2, 11);
@@ -224,7 +230,8 @@ public final class Promises {
       due(8, "heard", x.told(i, 4), 0);
     }
     due(8, "z", x.count(8), z);
-    due(8, "deal(10)", x.deal(10), 6);
+    due(8, "deal(1)", x.deal(1), 1);
+    due(8, "deal(10)", x.deal(10), 5);
     int before = x.count(8);
     due(8, "deal(10), full", x.deal(10), 0);
     due(8, "no draws without room", x.count(8), before);
@@ -303,6 +310,24 @@ public final class Promises {
     due(12, "treads: plate", y.told(trodden, 2), (z >>> 8) % 100);
     due(12, "treads: other plate", y.told((trodden + 1) % 3, 2), 50);
     due(12, "treads: three draws", y.count(8), z);
+
+    int first = ((77 * 1103515245 + 12345) >>> 8) % 100;
+    y.seed(77);
+    y.rule(2, first);
+    y.nights(1);
+    due(12, "treads: not below", y.count(8), 77 * 1103515245 + 12345);
+    y.seed(77);
+    y.rule(2, first + 1);
+    y.nights(1);
+    z = 77;
+    for (int i = 0; i < 3; i++) {
+      z = z * 1103515245 + 12345;
+    }
+    due(12, "treads: below", y.count(8), z);
+    CoalHoles bare = new CoalHoles();
+    bare.rule(2, 100);
+    bare.nights(1);
+    due(12, "treads: no houses, one draw", bare.count(8), 1103515245 + 12345);
 
     CoalHoles last = new CoalHoles();
     last.house(5, 0, 0, 0);
@@ -405,34 +430,29 @@ public final class Promises {
     x.set(1, 2, 30);
     due(16, "shut(1) now", x.shut(1), 0);
 
-    // One that is cold, or shut, behind 200 nights and not ahead of that.
-    CoalHoles far = new CoalHoles();
-    text(far, "fit c");
-    far.house(1, 0, 0, 1);
-    far.rule(1, 3);
-    for (int i = 0; i < 9; i++) {
-      far.house(5, 0, 0, 9);
-    }
-    due(15, "cold of a CHAPEL", far.cold(0), 1);
     CoalHoles hundred = new CoalHoles();
     hundred.house(0, 99, 0, 99);
     text(hundred, "fit s");
     hundred.rule(1, 5);
-    // Each night brings 5 and burns 5 as long as the plate is slack: 99 nights, and 20 more to burn it all.
+    // Each night brings 5 and burns 5 as long as the plate is slack: 99 nights, and 19 more to burn what it has.
     due(16, "shut by bending", hundred.shut(0), 99);
     due(15, "cold behind the shutting", hundred.cold(0), 99 + 19);
-    CoalHoles edge = new CoalHoles();
-    edge.house(0, 99, 0, 99);
-    edge.house(5, 0, 0, 0);
-    text(edge, "fit s");
-    edge.rule(1, 9);
-    int last = edge.cold(0);
-    due(15, "cold, one night sooner", nextCold(edge), last - 1);
-  }
 
-  private static int nextCold(CoalHoles x) {
-    x.nights(1);
-    return x.cold(0);
+    // Every third night brings 14 and three nights burn 15: it is cold, and by this text shut, some 250 nights on.
+    CoalHoles far = new CoalHoles();
+    far.rule(1, 14);
+    far.house(0, 50, 0, 99);
+    far.house(5, 0, 0, 0);
+    far.house(5, 0, 0, 0);
+    text(far, "fit c");
+    due(15, "cold(0): far off", far.cold(0), NONE);
+    due(16, "shut(0): far off", far.shut(0), NONE);
+    for (int k = 0; k < 100 && far.cold(0) == NONE; k++) {
+      due(16, "shut(0): not by then", far.shut(0), NONE);
+      far.nights(1);
+    }
+    due(15, "cold(0): the farthest", far.cold(0), 200);
+    due(16, "shut(0): the farthest", far.shut(0), 200);
   }
 
   private static void cement() {
@@ -469,6 +489,21 @@ public final class Promises {
     y.turns(0, 0);
     y.rule(0, 5);
     due(17, "cement(0)", y.cement(0), 0b0110);
+    // Houses 0 and 1 clank in the round and are quiet behind it; house 2, a LODGING, hears of one, not of both.
+    CoalHoles two = new CoalHoles();
+    two.rule(0, 4);
+    two.house(0, 54, 50, 50);
+    two.house(0, 54, 50, 50);
+    two.house(2, 50, 50, 0);
+    due(17, "cement(1): of two sets the least", two.cement(1), 0b001);
+    two.set(0, 2, 55);
+    two.set(0, 1, 59);
+    due(17, "cement(1) again", two.cement(1), 0b001);
+    two.set(0, 2, 54);
+    due(17, "cement(1): house 0 stays loud", two.cement(1), 0b001);
+    two.turns(0, 5);
+    two.rule(0, 50);
+    due(17, "cement(1): EMPTY", two.cement(1), NONE);
     // fit says that a fitting plate is a slack one: then none is made to fit, or there is none.
     CoalHoles odd = new CoalHoles();
     text(odd, "fit (s = p) * 50");
@@ -505,6 +540,10 @@ public final class Promises {
     due(18, "cast(0, 1, -1)", x.cast(0, 1, -1), BAD);
     due(18, "cast(0, 60, 1)", x.cast(0, 60, 1) >= 0 ? 1 : 0, 1);
 
+    text(x, "fit p / 99");
+    due(18, "cast(0, 1, 0): only the last plate is slack", x.cast(0, 1, 0), 99);
+    due(18, "cast(0, 1, 1)", x.cast(0, 1, 1), 25);
+
     CoalHoles y = new CoalHoles();
     y.house(5, 60, 40, 10);
     due(19, "becomes(0, 1, 0): all but MANSE clank", y.becomes(0, 1, 0), 3);
@@ -539,8 +578,10 @@ public final class Promises {
     due(20, "ears(0, -1)", x.ears(0, -1), BAD);
     due(20, "ears(0, 100000)", x.ears(0, 100000), BAD);
     due(20, "ears(0, 99999)", x.ears(0, 99999), 0);
-    x.set(0, 1, 99);
+    x.set(0, 1, 98);
     x.set(0, 2, 0);
+    due(20, "ears(1, 1): a slack of 98", x.ears(1, 1), 99);
+    x.set(0, 1, 99);
     due(20, "ears(1, 1): a slack of 99", x.ears(1, 1), NONE);
   }
 
@@ -652,7 +693,9 @@ public final class Promises {
   }
 
   private static void faults() {
-    String[] faulty = {"f|0", "fits|0", "fitt s|0", " fi t|1", "FIT s|0", "12|0", "(fit)|0", "fit|3", "fit   |6",
+    String[] faulty = {"f|0", "fita s|0", "fitz s|0", "afit s|0", "afine s|0", "zfee o|0", "fitfine s|0", "finefine|0",
+        "fee a|4", "fit z|4", "fit s+a|6", "fit s/|6", "fit 1:|5", "fit `|4", "fit {|4",
+        "fits|0", "fitt s|0", " fi t|1", "FIT s|0", "12|0", "(fit)|0", "fit|3", "fit   |6",
         "fit o|4", "fit sp|4", "fit s p|6", "fit 1s|5", "fit1|3", "fit12345|3", "fee s|4", "fee n|4", "fine p|5",
         "fine o|5", "fit 12345|4", "fit 00001|4", "fit s 12345|6", "fit s+|6", "fit s+ |7", "fit +s|4", "fit -1|4",
         "fit s<p<c|7", "fit s<p=c|7", "fit s<p&c<n<s|11", "fit (s|6", "fit s)|5", "fit ()|5", "fit (s))|7",
@@ -694,7 +737,8 @@ public final class Promises {
 
   private static void values() {
     Object[][] rows = {{"1+2*3", 7}, {"(1+2)*3", 9}, {"9-4-3", 2}, {"100/7/2", 7}, {"7/2*2", 6}, {"1/0", 0},
-        {"(0-7)/2", -3}, {"2<3", 1}, {"3<3", 0}, {"3=3", 1}, {"3>2", 1}, {"2>3", 0}, {"1+1<3", 1}, {"5&6", 1},
+        {"(0-7)/2", -3}, {"2<3", 1}, {"3<3", 0}, {"3=3", 1}, {"3>2", 1}, {"2>3", 0}, {"3>3", 0}, {"2=3", 0},
+        {"1+1<3", 1}, {"5&6", 1},
         {"5&0", 0}, {"0|0", 0}, {"4|0", 1}, {"!4", 0}, {"!0", 1}, {"!!4", 1}, {"!0*5", 5}, {"!(0*5)", 1}, {"!0+1", 2},
         {"1|0&0", 1}, {"(1|0)&0", 0}, {"0&1|1", 1}, {"1&2<3", 1}, {"o", 3}, {"k", 1}, {"o*10+k", 31}, {"007", 7},
         {"9999*9999*9999", 9999 * 9999 * 9999}, {"0-o", -3}, {"1-!1-!0", 0}, {"2*!0*3", 6}, {"((2))", 2},
@@ -794,6 +838,11 @@ public final class Promises {
     due(31, "pour(1)", x.pour(1), 3);
     due(31, "held within 0", x.told(1, 2), 0);
     due(31, "held within 99", x.told(3, 2), 99);
+    x.sheet(2, 0, 1);
+    due(31, "pour: beyond the sheet it stays", x.pour(2), 1);
+    due(31, "plate", x.told(0, 2), 0);
+    due(31, "plate beyond", x.told(2, 2), 50);
+    due(31, "plate beyond", x.told(3, 2), 99);
     x.sheet(2, 0, 0);
     due(31, "pour of no places", x.pour(2), 0);
     due(32, "reads of no places", x.reads(2), NONE);
