@@ -7,8 +7,8 @@ import java.util.List;
  * each KIND and a reader of texts that goes down by the grammar. Its calls are found by name.
  */
 final class Model {
-  private static final int BAD = -1000000001, NO = -1000000002, FULL = -1000000003, NONE = -1000000005;
-  private static final int NOTHING = -1000000011, KIND = -1000000012, INDEX = -1000000013, SIZE = -1000000014;
+  private static final int BAD = Due.BAD, NO = Due.NO, FULL = Due.FULL, NONE = Due.NONE, NOTHING = Due.NOTHING;
+  private static final int KIND = Due.KIND, INDEX = Due.INDEX, SIZE = Due.SIZE;
 
   State now = new State();
   State image;

@@ -43,11 +43,13 @@ public final class ModelRuns {
   private static final class Lots {
     private final Random lot;
     private final boolean costly;
+    private final boolean wordy;
     private final String[] names = Calls.OF_PROGRAM.names();
 
     Lots(Random lot) {
       this.lot = lot;
       this.costly = lot.nextInt(4) == 0;
+      this.wordy = lot.nextInt(4) == 0;
     }
 
     /** Every third run begins with a terrace that can be made quiet, every second one with sheets. */
@@ -78,6 +80,9 @@ public final class ModelRuns {
     }
 
     String name() {
+      if (wordy && lot.nextInt(4) == 0) {
+        return "text";
+      }
       String name = names[lot.nextInt(names.length)];
       boolean dear = name.equals("cement") || name.equals("cast") || name.equals("ears") || name.equals("becomes");
       if (dear && !costly && lot.nextInt(4) > 0) {
@@ -202,7 +207,7 @@ public final class ModelRuns {
       int key = lot.nextInt(3);
       StringBuilder b = new StringBuilder();
       b.append(new String[] {"fit", "fee", "fine"}[key]).append(' ');
-      write(b, new String[] {"spcn", "ok", "sc"}[key], lot.nextInt(4));
+      write(b, new String[] {"spcn", "ok", "sc"}[key], lot.nextInt(wordy ? 6 : 4));
       if (lot.nextInt(3) == 0) {
         spoil(b);
       }

@@ -134,7 +134,8 @@ public final class NightEdges {
     t.due(9999, "terrace", 0).due(40, "told", 0, 3).due(50, "told", 0, 1);
     t.due(BAD, "nights", 0).due(BAD, "nights", 101);
     d.says(14, "without the bound of THE NIGHT");
-    t.does("turns", 0, EMPTY).due(10099, "behind", 100, 0).due(10000, "behind", 1, 0).due(9999, "behind", 0, 0).due(9999, "count", 1);
+    t.does("turns", 0, EMPTY).due(10099, "behind", 100, 0).due(10000, "behind", 1, 0).due(9999, "behind", 0, 0);
+    t.due(9999, "count", 1);
   }
 
   private static void nightsOfNoHouses() {
@@ -210,6 +211,8 @@ public final class NightEdges {
       treadsDue(z, rest + 1, third, (second >>> 8) % 3, (third >>> 8) % 100);
       treadsDue(z, 100, third, (second >>> 8) % 3, (third >>> 8) % 100);
       treadsDue(z, 0, first, -1, 0);
+      Trial.withHouses(d, 1, EMPTY, 0, 55, 0).does("seed", z).does("rule", 2, 100).does("nights", 1)
+          .due(third, "count", 8).due((third >>> 8) % 100, "told", 0, 2);
     }
   }
 

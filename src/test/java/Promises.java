@@ -1,8 +1,7 @@
 /** Each promise by itself: ordinary inputs, the edges that the document names, and wrong inputs. */
 public final class Promises {
-  private static final int BAD = -1000000001, NO = -1000000002, FULL = -1000000003, NONE = -1000000005;
-  private static final int NOTHING = -1000000011, KIND = -1000000012, INDEX = -1000000013, SIZE = -1000000014;
-  private static final int LEAST = Integer.MIN_VALUE, MOST = Integer.MAX_VALUE;
+  private static final int BAD = Due.BAD, NO = Due.NO, FULL = Due.FULL, NONE = Due.NONE, NOTHING = Due.NOTHING;
+  private static final int KIND = Due.KIND, INDEX = Due.INDEX, SIZE = Due.SIZE, LEAST = Due.LEAST, MOST = Due.MOST;
 
   private static int wrong = 0;
 
@@ -13,22 +12,9 @@ public final class Promises {
     }
   }
 
-  /** Feeds a text; the tape must be empty. */
-  private static void tape(CoalHoles x, String text) {
-    for (int at = 0; at < text.length(); at += 12) {
-      int[] word = new int[3];
-      for (int i = 0; i < 12; i++) {
-        int b = at + i < text.length() ? text.charAt(at + i) : 0;
-        word[i / 4] = word[i / 4] << 8 | b;
-      }
-      x.feed(word[0], word[1], word[2]);
-    }
-    x.trim(text.length());
-  }
-
   private static int text(CoalHoles x, String text) {
-    tape(x, text);
-    return x.text();
+    Caller on = (name, with) -> Calls.OF_PROGRAM.answer(x, name, with);
+    return on.text(text);
   }
 
   /** What a fee text gives with NOISE 3 and KNOCKS 1. */

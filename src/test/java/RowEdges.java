@@ -195,8 +195,8 @@ public final class RowEdges {
   private static void whatStays() {
     d.says(41, "AN IMAGE keeps all but SHEETS, SLOTS, numbers that wait, THE TAPE");
     Trial t = new Trial(d).does("keep").does("sheet", 0, 0, 3).does("mark", 0, 2, 77).does("lay", 0, 3, 12);
-    t.does("tell", 1).does("tell", 2).feeds("fee 4").due(0, "back").due(5, "count", 7).due(2, "count", 6).due(2, "rest", 0, 5);
-    t.due(0, "lay", 1, 2, 0).due(77, "item", 1, 2).due(0, "text").due(4, "fee");
+    t.does("tell", 1).does("tell", 2).feeds("fee 4").due(0, "back").due(5, "count", 7).due(2, "count", 6);
+    t.due(2, "rest", 0, 5).due(0, "lay", 1, 2, 0).due(77, "item", 1, 2).due(0, "text").due(4, "fee");
     t.does("keep").does("sheet", 0, -1, 0).does("lay", 0, 0, 0).does("check", 1).feeds("fee 55").due(0, "back");
     t.due(Due.NOTHING, "reads", 0).due(Due.NOTHING, "rest", 0, 5).due(0, "count", 6).due(6, "count", 7);
   }

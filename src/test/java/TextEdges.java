@@ -14,6 +14,8 @@ public final class TextEdges {
     textsAtMost();
     keys();
     names();
+    nameValues();
+    readAfresh();
     words();
     blanks();
     signs();
@@ -21,6 +23,7 @@ public final class TextEdges {
     endsTooSoon();
     openBrackets();
     openNots();
+    loosestFirst();
     oneTest();
     firstFault();
     longest();
@@ -128,8 +131,10 @@ public final class TextEdges {
       faultDue(0, key + key + " 1");
       faultDue(0, key.toUpperCase() + " 1");
       faultDue(0, key.substring(0, key.length() - 1) + " 1");
-      faultDue(0, "x" + key + " 1");
-      faultDue(0, key + "x 1");
+      for (char letter : new char[] {'a', 'm', 'z'}) {
+        faultDue(0, letter + key + " 1");
+        faultDue(0, key + letter + " 1");
+      }
       faultDue(2, "  x" + key + " 1");
       faultDue(key.length() + 1, key + " " + key + " 1");
       faultDue(0, "(" + key + " 1)");
@@ -158,6 +163,36 @@ public final class TextEdges {
     for (char beside : new char[] {'a' - 1, 'z' + 1, '0' - 1, '9' + 1, 0, 31, 127, 128, 255}) {
       faultDue(4, "fit " + beside);
       faultDue(beside == '/' ? 6 : 5, "fit s" + beside);
+    }
+  }
+
+  private static void nameValues() {
+    d.says(26, "NAMES, each one letter: of fit s STRAIGHT, p PLATE, c COAL, n how many HOUSES there are; of fee o NOISE, "
+        + "k KNOCKS");
+    Trial t = new Trial(d).does("house", 0, 11, 22, 33).does("house", 0, 44, 44, 55).does("house", 5, 0, 0, 0);
+    t.does("rule", 0, 50).does(4, "round").does(3, "load", 1).tells("fee o").due(4, "fee").tells("fee k").due(3, "fee");
+    t.tells("fine s").due(11, "fine", 0).due(44, "fine", 1).tells("fine c").due(33, "fine", 0).due(55, "fine", 1);
+    String[] fits = {"s", "p", "c", "n"};
+    int[][] want = {{11, 44}, {22, 44}, {33, 55}, {3, 3}};
+    for (int i = 0; i < fits.length; i++) {
+      t.tells("fit " + fits[i]).due(want[i][0], "told", 0, 5).due(want[i][1], "told", 1, 5);
+    }
+    t.does("house", 0, 0, 0, 0).due(4, "told", 0, 5);
+  }
+
+  private static void readAfresh() {
+    d.says(26, "an act that reads it uses it up, whatever it answers");
+    // What a faulty text left open is not open in the next one.
+    String[] faulty = {"fee ((((((((", "fee !!!!!!!!", "fee 1+2*(3<", "fee 1|2&3=4-5*", "fee ((1+!(2", "fee 1<2<3"};
+    for (String text : faulty) {
+      Trial t = new Trial(d).tells(text).textDue(0, "fee ((((((((1<2))))))))").due(1, "fee").due(2, "textTold", 0, 1);
+      t.tells(text).textDue(1, "fee !!!!!!!!7").due(1, "fee").tells(text).textDue(2, "fee 1+1=2").due(1, "fee");
+      t.tells(text).textDue(-104, "fee )");
+    }
+    // Fourteen long ones: each has room of its own.
+    Trial t = new Trial(d);
+    for (int i = 0; i < 14; i++) {
+      t.textDue(i, "fee " + (10 + i) + "+1".repeat(44)).due(54 + i, "fee").due(45, "textTold", i, 1);
     }
   }
 
@@ -281,6 +316,29 @@ public final class TextEdges {
     faultDue(16, "fit !!!!!!!(!s+!!p)");
     faultDue(5, "fit s!");
     faultDue(6, "fit s !p");
+  }
+
+  private static void loosestFirst() {
+    d.says(26, "E, the loosest first: OR: AND { | AND }; AND: TEST { & TEST };");
+    valueDue(1, "1|0&0");
+    valueDue(0, "(1|0)&0");
+    valueDue(1, "0&0|1");
+    valueDue(0, "0&(0|1)");
+    valueDue(1, "1&2<3");
+    valueDue(1, "(1&2)<3");
+    valueDue(0, "(1&2)<1");
+    valueDue(1, "1+1<3");
+    valueDue(2, "1+(1<3)");
+    valueDue(7, "1+2*3");
+    valueDue(9, "(1+2)*3");
+    valueDue(2, "!0+1");
+    valueDue(0, "!(0+1)");
+    valueDue(2, "9-4-3");
+    valueDue(8, "9-(4-3)");
+    valueDue(7, "100/7/2");
+    valueDue(33, "100/(7/2)");
+    valueDue(6, "7/2*2");
+    valueDue(1, "7/(2*2)");
   }
 
   private static void oneTest() {

@@ -15,6 +15,7 @@ public final class ThoughtEdges {
     cement();
     cementAtTheEdges();
     cementFewestAheadOfLeast();
+    cementByTheTuneOfThen();
     cast();
     castAtTheEdges();
     becomes();
@@ -87,24 +88,27 @@ public final class ThoughtEdges {
     t.does("set", 0, 2, 0).due(1, "cold", 0);
   }
 
-  /** House 2 of three gets 14 every third night and burns 15 meanwhile. */
-  private static Trial everyThird(int coal) {
-    return new Trial(d).does("rule", 1, 14).does("house", EMPTY, 0, 0, 0).does("house", EMPTY, 0, 0, 0)
-        .does("house", HOUSE, 0, 50, coal);
+  /** One of three gets 14 every third night and burns 15 meanwhile. */
+  private static Trial everyThird(int house, int coal) {
+    return Trial.withHouses(d, 3, EMPTY, 0, 50, 99).does("rule", 1, 14).does("turns", house, HOUSE)
+        .does("set", house, 3, coal);
   }
 
   private static void coldOrShutByThen() {
     d.says(15, "COLD of one: behind how many NIGHTS (0 .. 200) it is COLD first.");
-    // Behind 3 k and 2 NIGHTS it has 10 and k less than at first, and more in between: 0 first if that is all it had.
-    everyThird(75).due(197, "cold", 2);
-    everyThird(76).due(200, "cold", 2);
-    everyThird(77).due(NONE, "cold", 2);
-    everyThird(77).does("nights", 3).due(200, "cold", 2);
+    // House 2 has 10 and k less than at first behind 3 k and 2 NIGHTS, house 1 has 5 and k less behind 3 k and 1,
+    // house 0 has k less behind 3 k, and all have more in between: one is COLD first if that is all it had.
+    everyThird(1, 71).due(199, "cold", 1);
+    everyThird(2, 75).due(197, "cold", 2);
+    everyThird(2, 76).due(200, "cold", 2);
+    everyThird(2, 77).due(NONE, "cold", 2).does("nights", 3).due(200, "cold", 2);
+    everyThird(0, 67).due(NONE, "cold", 0).does("nights", 1).due(200, "cold", 0);
     d.says(16, "SHUT of one: behind how many NIGHTS (0 .. 200) its SLACK is 0 first.");
-    everyThird(75).tells("fit c").due(197, "shut", 2);
-    everyThird(76).tells("fit c").due(200, "shut", 2);
-    everyThird(77).tells("fit c").due(NONE, "shut", 2);
-    everyThird(77).tells("fit c").does("nights", 3).due(200, "shut", 2);
+    everyThird(1, 71).tells("fit c").due(199, "shut", 1);
+    everyThird(2, 75).tells("fit c").due(197, "shut", 2);
+    everyThird(2, 76).tells("fit c").due(200, "shut", 2);
+    everyThird(2, 77).tells("fit c").due(NONE, "shut", 2).does("nights", 3).due(200, "shut", 2);
+    everyThird(0, 67).tells("fit c").due(NONE, "shut", 0).does("nights", 1).due(200, "shut", 0);
   }
 
   private static void shut() {
@@ -164,6 +168,15 @@ public final class ThoughtEdges {
     // By a plate of 1 it is quiet with one of the two, and so is each of three sets of one.
     t.does("set", 2, 2, 1).due(0b001, "cement", 1);
     t.does("set", 2, 2, 0).due(0, "cement", 1);
+  }
+
+  private static void cementByTheTuneOfThen() {
+    d.says(17, "no SLACK is EAR or more behind n NIGHTS");
+    // The CLUB fits, and clanks only as long as it hears of the HOUSE: that one is all that must be fitted.
+    new Trial(d).does("rule", 0, 12).does("house", HOUSE, 50, 0, 0).does("house", CLUB, 99, 99, 0).due(1, "cement", 1);
+    // By this text the HOUSE clanks for one night if it is made to fit, and then the CLUB would hear of it.
+    new Trial(d).does("rule", 0, 12).tells("fit (s = p) * 50 * (c < 50) + (c > 50) * (s - p)")
+        .does("house", HOUSE, 50, 0, 0).does("house", CLUB, 60, 40, 99).due(2, "cement", 1);
   }
 
   private static void cast() {
@@ -266,6 +279,8 @@ public final class ThoughtEdges {
     t.due(2, "like", 1, 0).due(98, "like", 1, 1).does("mark", 1, 0, 99).due(0, "like", 1, 0).due(0, "like", 1, 1);
     t.does("set", 0, 3, 98).due(1, "like", 1, 0).does("set", 1, 3, 98).due(0, "like", 1, 0).due(1, "like", 1, 1);
     t.does("set", 2, 3, 99).due(2, "like", 1, 0);
+    Trial ten = Trial.withHouses(d, 10, EMPTY, 0, 0, 50).does("set", 9, 3, 51).does("sheet", 0, SHORTS, 2);
+    ten.does("mark", 0, 0, 51).does("mark", 0, 1, 51).due(9, "like", 0, 0).due(0, "like", 0, 1);
   }
 
   private static void likeAtTheEdges() {
