@@ -232,7 +232,6 @@ public final class ThoughtEdges {
   private static void becomesEachKind() {
     d.says(19, "BECOMES of one, for n: the KIND of which it had best be from now on, so that NOISE is least behind n "
         + "NIGHTS; of several the least.");
-    // EMPTY is never the best alone: where it is quiet, a CHAPEL, which has 49 at most, is quiet too.
     Trial one = new Trial(d).does("house", EMPTY, 9, 0, 0).due(0, "becomes", 0, 1, 0).due(0, "becomes", 0, 1, 1);
     one.does("set", 0, 1, 19).due(CHAPEL, "becomes", 0, 1, 0).does("set", 0, 1, 20).due(MANSE, "becomes", 0, 1, 0);
     one.does("set", 0, 1, 29).due(MANSE, "becomes", 0, 1, 0).due(0, "becomes", 0, 1, 1);
@@ -242,6 +241,10 @@ public final class ThoughtEdges {
     // A CLUB whose load is what it burns stays as it is; all others bend away from the plate, or have 50.
     Trial club = new Trial(d).does("rule", 0, 20).does("rule", 1, 6).does("house", HOUSE, 30, 30, 20);
     club.due(CLUB, "becomes", 0, 60, 0).due(0, "becomes", 0, 60, 1);
+    // As EMPTY it clanks each night, but the LODGINGS hear of it: they are never shut, and each load keeps them at 20.
+    Trial empty = new Trial(d).does("rule", 0, 30).does("rule", 1, 30).does("house", HOUSE, 50, 50, 99);
+    empty.does(2, "house", LODGING, 50, 50, 40).tells("fit (c < 20) * 50");
+    empty.due(EMPTY, "becomes", 0, 60, 0).due(60, "becomes", 0, 60, 1);
   }
 
   private static void ears() {
