@@ -58,7 +58,7 @@ public final class ModelRuns {
         put(row, "rule", 0, 12 + lot.nextInt(30));
         for (int i = 2 + lot.nextInt(7); i > 0; i--) {
           int straight = lot.nextInt(100);
-          int plate = Math.max(0, Math.min(99, straight + lot.nextInt(61) - 30));
+          int plate = lot.nextInt(3) == 0 ? straight : Math.max(0, Math.min(99, straight + lot.nextInt(61) - 30));
           put(row, "house", lot.nextInt(3) == 0 ? 2 : lot.nextInt(5), straight, plate, lot.nextInt(100));
         }
         put(row, "rule", 1, lot.nextInt(40));

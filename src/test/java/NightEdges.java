@@ -81,6 +81,8 @@ public final class NightEdges {
   private static void shutOrNot() {
     d.says(11, "if its SLACK is 0, KNOCKS are 1 more (99999 at most), else COAL is LOAD more (99 at most)");
     // KNOCKS can't come near 99999 within 512 calls: 9999 NIGHTS have one each, and so has each call beside.
+    new Trial(d).does("house", HOUSE, 50, 50, 0).tells("fit 0").does(100, "nights", 100).due(9999, "terrace", 1)
+        .due(0, "load", 0).due(10000, "terrace", 1).due(0, "load", 0).due(10001, "terrace", 1).due(10101, "behind", 100, 1);
     int[][] rows = {{HOUSE, 0, 0}, {HOUSE, 1, 20}, {CHAPEL, 1, 0}, {CHAPEL, 2, 20}, {MANSE, 11, 0}, {MANSE, 12, 20},
         {LODGING, 0, 0}, {LODGING, 1, 20}, {CLUB, 0, 20}, {EMPTY, 0, 20}};
     for (int[] row : rows) {
@@ -241,7 +243,7 @@ public final class NightEdges {
     for (int i = 0; i < 10; i++) {
       ten.does("set", i, 3, 1).due((1 << i) - 1, "terrace", 2).does("set", i, 3, 0).due((2 << i) - 1, "terrace", 2);
     }
-    ten.due(0, "terrace", 4);
+    ten.due(0, "terrace", 4).due(990, "terrace", 5).does("set", 3, 1, 98).due(989, "terrace", 5);
   }
 
   private static void loudest() {

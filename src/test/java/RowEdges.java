@@ -15,6 +15,7 @@ public final class RowEdges {
     checkByTheImage();
     keep();
     back();
+    backToTenHouses();
     backAgainAndAgain();
     whatStays();
     count();
@@ -105,7 +106,11 @@ public final class RowEdges {
     toldOf(t, row, 2).due(3, "check", 30);
     toldOf(t, row, 4).does("tell", 10000).due(5, "check", 30);
     toldOf(t, row, 4).does("tell", 10000).due(5, "check", 3);
-    t.does("nights", 100).due(9999, "count", 1).due(1, "keep").due(0, "check", 1).due(0, "check", 30);
+    // It is the image's night that counts, not the one that is now.
+    t.does("nights", 100).due(9999, "count", 1);
+    toldOf(t, row, 4).due(0, "check", 30);
+    toldOf(t, row, 3).due(4, "check", 2);
+    t.due(1, "keep").due(0, "check", 1).due(0, "check", 30);
     t.does("tell", 10000).due(1, "check", 1).does("tell", 9999).due(1, "check", 30);
   }
 
@@ -136,6 +141,9 @@ public final class RowEdges {
     for (int i = 1; i <= 10; i++) {
       t.does("house", 0, 0, 0, 0).due(i, "keep").due(i, "back");
     }
+    // What is kept does not bear on what is asked now.
+    new Trial(d).does("house", 0, 50, 0, 0).does("rule", 0, 0).does("keep").does("rule", 0, 10).due(1, "cement", 0)
+        .due(1, "round").does("set", 0, 2, 50).due(0, "round").due(0, "shut", 0);
     // The image that is kept last takes the place of the one ahead of it.
     t.does("set", 0, 1, 7).due(10, "keep").does("set", 0, 1, 9).due(10, "back").due(7, "told", 0, 1);
   }
@@ -156,6 +164,28 @@ public final class RowEdges {
       d.answer("reading " + i + " behind back()", after[i], before[i]);
     }
     t.due(BAD, "told", 2, 0).due(BAD, "textTold", 1, 0);
+  }
+
+  private static void backToTenHouses() {
+    d.says(41, "All is as THE IMAGE: how many HOUSES. NO: there is none.");
+    Trial t = new Trial(d).does("deal", 10);
+    int[][] row = new int[10][5];
+    for (int i = 0; i < 10; i++) {
+      t.does("set", i, 4, 100 + i);
+      for (int what = 0; what < 5; what++) {
+        row[i][what] = t.call("told", i, what);
+      }
+    }
+    t.does("keep").does("nights", 50);
+    for (int i = 0; i < 10; i++) {
+      t.does("turns", i, i % 6).does("set", i, 1, i).does("set", i, 2, i).does("set", i, 3, i).does("set", i, 4, i);
+    }
+    t.due(10, "back");
+    for (int i = 0; i < 10; i++) {
+      for (int what = 0; what < 5; what++) {
+        t.due(row[i][what], "told", i, what);
+      }
+    }
   }
 
   private static int[] state(Trial t) {

@@ -170,7 +170,7 @@ public final class TextEdges {
     d.says(26, "NAMES, each one letter: of fit s STRAIGHT, p PLATE, c COAL, n how many HOUSES there are; of fee o NOISE, "
         + "k KNOCKS");
     Trial t = new Trial(d).does("house", 0, 11, 22, 33).does("house", 0, 44, 44, 55).does("house", 5, 0, 0, 0);
-    t.does("rule", 0, 50).does(4, "round").does(3, "load", 1).tells("fee o").due(4, "fee").tells("fee k").due(3, "fee");
+    t.does("rule", 0, 50).does(5, "round").does(3, "load", 1).tells("fee o").due(5, "fee").tells("fee k").due(3, "fee");
     t.tells("fine s").due(11, "fine", 0).due(44, "fine", 1).tells("fine c").due(33, "fine", 0).due(55, "fine", 1);
     String[] fits = {"s", "p", "c", "n"};
     int[][] want = {{11, 44}, {22, 44}, {33, 55}, {3, 3}};
@@ -381,7 +381,11 @@ public final class TextEdges {
     faultDue(96, sum + "+");
     faultDue(95, sum + ")");
     goodDue(" ".repeat(91) + "fee 1");
-    // As deep to the right as can be: each side waits for the next.
+    // As deep to the right as can be: each side waits for the next, and what is innermost decides.
+    for (String inmost : new String[] {"0 0", "1 1", "(0-1) 0", "!!!!!!!1 0", "!!!!!!!0 1"}) {
+      int bar = inmost.indexOf(' ');
+      valueDue(inmost.charAt(bar + 1) - '0', "0|1&1<1+1*(".repeat(7) + inmost.substring(0, bar) + ")".repeat(7));
+    }
     new Trial(d).textDue(0, "fee 1|(1&(1<(1+(1*(1|(1&(0<(1+1*1))))))))").due(1, "fee").due(11, "textTold", 0, 1);
   }
 

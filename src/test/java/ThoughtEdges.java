@@ -157,6 +157,17 @@ public final class ThoughtEdges {
     t.does("rule", 0, 31).due(0, "cement", 20).due(1023, "cement", 19).does("rule", 0, 99).due(0, "cement", 0);
     t.does("set", 9, 1, 99).due(1 << 9, "cement", 0).does("set", 0, 1, 99).due(1 << 9 | 1, "cement", 0);
     t.due(0, "told", 0, 2).due(0, "told", 9, 2);
+    d.says(17, "if PLATE of each of these is as its STRAIGHT is now");
+    for (int straight = 0; straight < 100; straight++) {
+      int plate = straight < 50 ? straight + 10 : straight - 10;
+      new Trial(d).does("house", HOUSE, straight, plate, 0).due(1, "cement", 0).does("set", 0, 2, straight)
+          .due(0, "cement", 0);
+    }
+    Trial five = new Trial(d).does("rule", 0, 15);
+    for (int kind = HOUSE; kind <= CLUB; kind++) {
+      five.does("house", kind, 90, 5, 5).does("set", kind, 4, 5);
+    }
+    five.due(31, "cement", 0);
   }
 
   private static void cementFewestAheadOfLeast() {
@@ -177,6 +188,12 @@ public final class ThoughtEdges {
     // By this text the HOUSE clanks for one night if it is made to fit, and then the CLUB would hear of it.
     new Trial(d).does("rule", 0, 12).tells("fit (s = p) * 50 * (c < 50) + (c > 50) * (s - p)")
         .does("house", HOUSE, 50, 0, 0).does("house", CLUB, 60, 40, 99).due(2, "cement", 1);
+    // The LODGING, which fits, hears of the HOUSE in its last loud night, takes the load and bends by ten. If the HOUSE
+    // is made to fit, it is knocked at in vain and bends by five. It may be the first house or the last.
+    Trial first = new Trial(d).does("rule", 0, 9).does("rule", 1, 80).does("house", LODGING, 50, 50, 40);
+    first.does("house", HOUSE, 59, 50, 0).due(2, "cement", 1).does("rule", 0, 12).due(0, "cement", 1);
+    Trial last = new Trial(d).does("nights", 1).does("rule", 0, 9).does("rule", 1, 80).does("house", HOUSE, 59, 50, 0);
+    last.does("house", LODGING, 50, 50, 40).due(1, "cement", 1).does("rule", 0, 5).due(NONE, "cement", 1);
   }
 
   private static void cast() {
@@ -202,7 +219,7 @@ public final class ThoughtEdges {
     Trial t = new Trial(d).does("house", HOUSE, 50, 50, 10).due(0, "cast", 0, 1, 0).due(25, "cast", 0, 1, 1);
     t.does("set", 0, 1, 0).due(1, "cast", 0, 1, 0).due(25, "cast", 0, 1, 1);
     t.tells("fit p / 99").due(99, "cast", 0, 1, 0).due(25, "cast", 0, 1, 1);
-    t.tells("fit p / 98").due(98, "cast", 0, 1, 0);
+    t.tells("fit p / 98").due(98, "cast", 0, 1, 0).tells("fit p / 100").due(0, "cast", 0, 1, 0).due(5, "cast", 0, 1, 1);
     t.tells("fit 0").due(0, "cast", 0, 1, 0).due(5, "cast", 0, 1, 1).due(0, "cast", 0, 60, 1);
     t.tells("fit p = 0").due(0, "cast", 0, 60, 0).due(94, "cast", 0, 60, 1);
     // By a plate of 0 it is shut in the last of the nights, by one of 1 in the last but one: the last load fills it.
@@ -245,6 +262,9 @@ public final class ThoughtEdges {
     Trial empty = new Trial(d).does("rule", 0, 30).does("rule", 1, 30).does("house", HOUSE, 50, 50, 99);
     empty.does(2, "house", LODGING, 50, 50, 40).tells("fit (c < 20) * 50");
     empty.due(EMPTY, "becomes", 0, 60, 0).due(60, "becomes", 0, 60, 1);
+    // All get cold, a CHAPEL in the second of the nights: there is no KIND that burns nothing but EMPTY, which clanks.
+    Trial cold = new Trial(d).does("rule", 0, 5).does("rule", 1, 0).does("house", HOUSE, 50, 50, 5);
+    cold.tells("fit (c = 0) * 50").due(CHAPEL, "becomes", 0, 10, 0).due(8, "becomes", 0, 10, 1);
   }
 
   private static void ears() {
