@@ -2,18 +2,13 @@ import java.lang.reflect.Constructor;
 import java.lang.reflect.Field;
 import java.lang.reflect.Method;
 import java.lang.reflect.Modifier;
-import java.nio.file.Files;
-import java.nio.file.Path;
 import java.util.ArrayList;
 import java.util.Arrays;
 import java.util.List;
 import java.util.TreeSet;
-import java.util.regex.Matcher;
-import java.util.regex.Pattern;
 
-/** The public face as the document has it, and the rules of LANGUAGE.md that a look at the source can tell. */
-public final class FaceAndRules {
-  private static final String SOURCE = "src/main/java/CoalHoles.java";
+/** The public face as the document has it, and what the classes inside are. */
+public final class Face {
   private static final String[] FACE = {"house 4", "told 2", "as 2", "turns 2", "set 3", "rule 2", "deal 1", "seed 1",
       "round 0", "load 1", "nights 1", "terrace 1", "behind 2", "cold 1", "shut 1", "cement 1", "cast 3", "becomes 3",
       "ears 2", "like 2", "fee 0", "fine 1", "feed 3", "trim 1", "text 0", "textTold 2", "why 1", "sheet 3", "mark 3",
@@ -34,7 +29,6 @@ public final class FaceAndRules {
   public static void main(String[] args) throws Exception {
     face();
     classesInside();
-    source(Files.readString(Path.of(SOURCE)));
     System.out.println(wrong == 0 ? "all rules hold" : wrong + " rules do not hold");
     if (wrong != 0) {
       System.exit(1);
@@ -94,42 +88,6 @@ public final class FaceAndRules {
       hold(c + " has at most twenty fields", fields <= 20);
       for (Method m : c.getDeclaredMethods()) {
         hold(m + " takes at most seven", m.getParameterCount() <= 7);
-      }
-    }
-  }
-
-  private static void source(String text) {
-    String code = Pattern.compile("/\\*.*?\\*/|//[^\n]*", Pattern.DOTALL).matcher(text).replaceAll("");
-    String[] words = {"throw", "throws", "try", "catch", "finally", "synchronized", "assert", "package", "native",
-        "volatile", "transient", "Random", "System.nanoTime", "System.currentTimeMillis", "Thread", "Object",
-        "hashCode", "toString", "NaN", "Exact", "double", "float", "Exception"};
-    for (String word : words) {
-      hold("no " + word, !Pattern.compile("\\b" + Pattern.quote(word) + "\\b").matcher(code).find());
-    }
-    hold("no lambda and no method reference", !code.contains("->") && !code.contains("::"));
-    hold("no joining of texts by +", !Pattern.compile("\"\\s*\\+|\\+\\s*\"").matcher(code).find());
-    Matcher imports = Pattern.compile("import ([^;]*);").matcher(code);
-    while (imports.find()) {
-      hold("import " + imports.group(1), imports.group(1).matches("java\\.util\\.(Arrays|ArrayList|List)"));
-    }
-    for (char c : text.toCharArray()) {
-      hold("a plain sign: " + (int) c, c == '\n' || c >= ' ' && c < 127);
-    }
-    lengths(code.split("\n"));
-  }
-
-  private static void lengths(String[] lines) {
-    Pattern head = Pattern.compile("^(  |    )(public|private)[^=;]*\\([^;]*\\) \\{$");
-    int begun = -1;
-    String end = "";
-    for (int i = 0; i < lines.length; i++) {
-      Matcher m = head.matcher(lines[i]);
-      if (m.find()) {
-        begun = i;
-        end = m.group(1) + "}";
-      } else if (begun >= 0 && lines[i].equals(end)) {
-        hold("at most sixty lines: " + lines[begun].trim(), i - begun < 60);
-        begun = -1;
       }
     }
   }
